@@ -136,7 +136,6 @@ public final class PhoneRater {
             for (int zone = FIRST_ABROAD; zone < ZONES; zone++) {
                 feesPaid[zone] = 0;
                 lastFeeDay[zone] = NONE;
-                freeOfDay[zone] = 0;
             }
         }
 
