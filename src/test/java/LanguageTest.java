@@ -16,13 +16,19 @@ public final class LanguageTest {
     private static final Checks CHECKS = new Checks();
     private static final Path SOURCE = Path.of("src/main/java/PhoneRater.java");
 
+    private static final String INDEX = " IndexOutOfBoundsException";
+    private static final String ARGUMENT = " IllegalArgumentException";
+    private static final String STATE = " IllegalStateException";
+
     private static final String[] FACE = {
-        "int addTariff(int,int,int,int,int)", "int setZone(int,int,int,int)", "boolean setPeak(int,int)",
-        "int addAccount(int,int,int)", "int addLine(int,int)", "int setTariff(int,int)", "int setBundle(int,int)",
-        "int addCall(int,int,int,int)", "int correct(int,int)", "int callCount()", "int callAt(int)",
-        "boolean isPeak(int)", "int told(int,int)", "int dearest()", "int lineSum(int)", "int daySum(int)",
-        "int sum(int)", "int total(int)", "int left(int)", "int emptied(int)", "int dayFees(int,int)",
-        "int totalWith(int,int)", "int bestTariff(int)", "double freeShare()", "long digest()",
+        "int addTariff(int,int,int,int,int)" + ARGUMENT + STATE, "int setZone(int,int,int,int)" + INDEX + ARGUMENT,
+        "boolean setPeak(int,int)" + ARGUMENT, "int addAccount(int,int,int)" + ARGUMENT + STATE,
+        "int addLine(int,int)" + INDEX + STATE, "int setTariff(int,int)" + INDEX, "int setBundle(int,int)" + INDEX + ARGUMENT,
+        "int addCall(int,int,int,int)" + INDEX + ARGUMENT + STATE, "int correct(int,int)" + INDEX + ARGUMENT,
+        "int callCount()", "int callAt(int)" + INDEX, "boolean isPeak(int)" + INDEX, "int told(int,int)" + INDEX,
+        "int dearest()", "int lineSum(int)" + INDEX, "int daySum(int)" + INDEX, "int sum(int)" + INDEX,
+        "int total(int)" + INDEX, "int left(int)" + INDEX, "int emptied(int)" + INDEX, "int dayFees(int,int)" + INDEX,
+        "int totalWith(int,int)" + INDEX, "int bestTariff(int)" + INDEX, "double freeShare()", "long digest()",
     };
 
     /** What no line of code may hold, with the rule that says so. */
@@ -94,7 +100,11 @@ public final class LanguageTest {
         for (Class<?> p : m.getParameterTypes()) {
             s.append(s.charAt(s.length() - 1) == '(' ? "" : ",").append(p.getName());
         }
-        return s.append(')').toString();
+        s.append(')');
+        for (Class<?> thrown : m.getExceptionTypes()) {
+            s.append(' ').append(thrown.getSimpleName());
+        }
+        return s.toString();
     }
 
     private static boolean isPrivate(Member m) {

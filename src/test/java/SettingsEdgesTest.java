@@ -23,6 +23,7 @@ public final class SettingsEdgesTest {
         promise03RateBefore();
         promise04Ranges();
         promise04LastLessThanFirst();
+        promise04EndsAreUsed();
         promise04AnotherOne();
         promise05Ranges();
         promise05EndsAreUsed();
@@ -161,6 +162,24 @@ public final class SettingsEdgesTest {
         SOME.refused(Edges.ARGUMENT, "P4 setPeak", SET_PEAK, 1439, 1438);
         SOME.answers(1, "P4 setPeak", SET_PEAK, 1439, 1439);
         SOME.refused(Edges.ARGUMENT, "P4 setPeak", SET_PEAK, 1439, 0);
+    }
+
+    private static void promise04EndsAreUsed() {
+        PhoneRater r = new PhoneRater();
+        r.addTariff(0, 120, 60, 1, 1);
+        r.addAccount(0, 0, 0);
+        r.addLine(0, 0);
+        r.addCall(0, 0, 1, 0);
+        r.addCall(0, 700, 10, 0);
+        r.addCall(0, 1439, 100, 0);
+        int[][] wants = {{0, 1439, 222}, {1, 1439, 221}, {0, 1438, 122}, {0, 0, 112}, {1439, 1439, 211}, {700, 700, 121},
+            {701, 1438, 111}, {1, 699, 111}};
+        for (int[] w : wants) {
+            CHECKS.due("P4 setPeak " + w[0] + " to " + w[1], 1, () -> Edges.bit(r.setPeak(w[0], w[1])));
+            CHECKS.due("P4 calls by a peak from " + w[0] + " to " + w[1], w[2], () -> r.sum(0));
+        }
+        CHECKS.refusedArgument("P4 refused", r, () -> Edges.bit(r.setPeak(0, 1440)));
+        CHECKS.due("P4 behind a refusal", 111, () -> r.sum(0));
     }
 
     /** "Returns whether one of them is another one than before." */
